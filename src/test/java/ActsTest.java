@@ -106,6 +106,10 @@ final class ActsTest {
         check.due("11 undo", x.undo(), 1);
         check.due("11 undone", x.mat(0, 0), 0);
         check.due("11 undone", x.soil(1, 3), 4);
+        MatNations y = Check.hotel("d60,1;m3;m4;");
+        y.change(0);
+        y.undo();
+        check.due("11 countries undone", y.mat(0, 0) * 10 + y.mat(1, 0), 34);
         check.due("11 one mat", Check.hotel("d1,1;m0;").change(0), Check.BAD);
     }
 
@@ -190,6 +194,11 @@ final class ActsTest {
         check.due("15 what 4", x.mat(0, 4), Check.BAD);
         check.due("15 -1", x.mat(-1, 0), Check.BAD);
         check.due("15 2", x.mat(2, 0), Check.BAD);
+        MatNations y = Check.hotel("d20,1;m3;w1,0,1;w1,1,1;");
+        y.come(1);
+        check.due("15 master by 1", y.mat(0, 3), 1);
+        y.come(0);
+        check.due("15 the least is 0", y.mat(0, 3), 0);
         check.due("16 of 5", x.soil(0, 5), 5);
         check.due("16 of 0", x.soil(0, 0), 0);
         check.due("16 on 1", x.soil(1, 2), 4);

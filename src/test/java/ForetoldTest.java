@@ -52,9 +52,22 @@ final class ForetoldTest {
         x.come(0);
         check.due("21 from now", x.order(-1), 8);
         check.due("21 of several the first", x.order(0), 0);
+        mostIsCarriedIn();
         MatNations nobody = Check.hotel("d4,1;m0;");
         check.due("21 nobody", nobody.order(-1), 0);
         check.due("21 nobody", nobody.order(0), Check.NONE);
+    }
+
+    private static void mostIsCarriedIn() {
+        MatNations x = Check.hotel("d1,1;m0;w30,0,1;w30,0,1;w30,0,1;w30,0,1;w30,0,1;w30,0,1;");
+        x.come(0);
+        x.rain(20);
+        x.rain(20);
+        check.due("21 most", x.order(-1), 360);
+        check.due("21 most", x.order(5), 5);
+        check.due("22 most", x.laying(-1), 360);
+        check.due("23 most", x.beating(63, 200, 0), Check.NONE);
+        check.due("28 most", x.absent(200, 0, 0), 0);
     }
 
     private static void findsLayings() {
@@ -100,6 +113,7 @@ final class ForetoldTest {
         MatNations y = Check.hotel("d4,1;m0;m1;t8,0,4;s8,0,1;");
         y.come(0);
         y.come(1);
+        check.due("23 a greater set of fewer", y.beating(1, 4, 0), 1);
         check.due("23 the second", y.beating(1, 4, 1), 2);
         check.due("23 the first", y.beating(2, 4, 1), 1);
     }
@@ -114,6 +128,10 @@ final class ForetoldTest {
         x.come(1);
         check.due("24 three", x.pacts(0), 3);
         check.due("24 the first", x.pacts(1), 12);
+        MatNations y = Check.hotel("d60,3;m1;m2;m1;w30,1,3;");
+        y.come(0);
+        check.due("24 with mat 0", y.pacts(0), 1);
+        check.due("24 with mat 0", y.pacts(1), 2);
         check.due("24 what 2", x.pacts(2), Check.BAD);
         check.due("24 what -1", x.pacts(-1), Check.BAD);
     }
@@ -127,6 +145,10 @@ final class ForetoldTest {
         check.due("25 then", x.could(0, 1), 2);
         x.come(1);
         check.due("25 already", x.could(0, 1), 31);
+        MatNations y = Check.hotel("d60,3;m1;m2;w2,1,2;w9,2,9;w9,5,9;");
+        y.come(0);
+        y.come(1);
+        check.due("25 only of his soil", y.could(0, 1), 0);
         check.due("25 itself", x.could(1, 1), Check.BAD);
         check.due("25 3", x.could(0, 3), Check.BAD);
         check.due("25 -1", x.could(-1, 0), Check.BAD);
@@ -175,6 +197,10 @@ final class ForetoldTest {
         x.set(0, 0, 9);
         x.set(0, 1, 0);
         check.due("27 manners of all", x.fits(1, 0, 0, 2), 512);
+        x.set(0, 0, 1);
+        x.set(0, 1, 1);
+        check.due("27 manners of 1", x.fits(1, 0, 0, 2), 2);
+        x.set(0, 1, 0);
         x.set(0, 0, 4);
         check.due("27 stamper", x.fits(1, 0, 0, 0), 16);
         x.set(0, 0, 0);

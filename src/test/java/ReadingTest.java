@@ -172,7 +172,7 @@ final class ReadingTest {
         check.due("7 acts stay", x.undo(), 0);
         Check.read(x, "d0,1;m0;");
         check.due("8 the latest", x.fault(), 2);
-        Check.read(x, "d9,1;m0;");
+        check.due("7 behind a fault", Check.read(x, "d9,1;m0;"), 0);
         check.due("8 behind a hotel without one", x.fault(), 2);
     }
 }

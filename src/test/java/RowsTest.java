@@ -55,10 +55,14 @@ final class RowsTest {
     private static void itemsAreNoughtAtFirst() {
         MatNations x = Check.hotel("d9,1;m0;w0,0,1;");
         x.row(0, 2, 3);
-        x.set(0, 1, 5);
-        check.due("2 set item", x.who(0, 1), 0);
+        for (int i = 0; i < 3; i++) {
+            x.set(0, i, 5);
+            check.due("2 set item", x.who(0, i), 0);
+        }
         x.row(0, 2, 3);
-        check.due("2 new item", x.who(0, 1), 1);
+        for (int i = 0; i < 3; i++) {
+            check.due("2 new item", x.who(0, i), 1);
+        }
     }
 
     private static void setsItems() {
