@@ -61,7 +61,7 @@ final class ActsTest {
         comesBeyondManyCalls();
     }
 
-    /** What is FULL stands beyond the calls for which an object is used, so it is only seen not to be early. */
+    /** 999 comings lie beyond the 512 calls that are promised, so this holds the class to more than it must. */
     private static void comesBeyondManyCalls() {
         MatNations x = Check.hotel("d60,1;m0;w0,1,4;");
         for (int i = 0; i < 999; i++) {

@@ -113,7 +113,11 @@ final class ForetoldTest {
         MatNations y = Check.hotel("d4,1;m0;m1;t8,0,4;s8,0,1;");
         y.come(0);
         y.come(1);
-        check.due("23 a greater set of fewer", y.beating(1, 4, 0), 1);
+        // the guest is as well off by MATS 0 and 1 as by MAT 2, which is of his COUNTRY
+        MatNations z = Check.hotel("d4,1;m0;m1;m5;g4,5,2;w12,0,4;");
+        z.come(1);
+        check.due("23 a greater set of fewer", z.beating(1, 0, 0), 1);
+        check.due("23 a greater set of fewer", z.beating(1, 0, 1), 4);
         check.due("23 the second", y.beating(1, 4, 1), 2);
         check.due("23 the first", y.beating(2, 4, 1), 1);
     }
@@ -145,10 +149,10 @@ final class ForetoldTest {
         check.due("25 then", x.could(0, 1), 2);
         x.come(1);
         check.due("25 already", x.could(0, 1), 31);
-        MatNations y = Check.hotel("d60,3;m1;m2;w2,1,2;w9,2,9;w9,5,9;");
+        MatNations y = Check.hotel("d60,3;m1;m2;w4,1,2;w9,2,9;w9,5,9;");
         y.come(0);
         y.come(1);
-        check.due("25 only of his soil", y.could(0, 1), 0);
+        check.due("25 only of his soil", y.could(0, 1), 1);
         check.due("25 itself", x.could(1, 1), Check.BAD);
         check.due("25 3", x.could(0, 3), Check.BAD);
         check.due("25 -1", x.could(-1, 0), Check.BAD);
