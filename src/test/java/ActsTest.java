@@ -58,20 +58,6 @@ final class ActsTest {
         check.due("9 nobody else", x.comer(1, 3), 0);
         check.due("9 lies there", x.soil(0, 1), 8);
         check.due("9 soil", x.comer(0, 0), 9);
-        comesBeyondManyCalls();
-    }
-
-    /** 999 comings lie beyond the 512 calls that are promised, so this holds the class to more than it must. */
-    private static void comesBeyondManyCalls() {
-        MatNations x = Check.hotel("d60,1;m0;w0,1,4;");
-        for (int i = 0; i < 999; i++) {
-            check.due("9 not full", x.come(0), 0);
-        }
-        check.due("9 999 times", x.comer(0, 3), 999);
-        check.due("9 full", x.come(0), Check.FULL);
-        check.due("9 full leaves it", x.comer(0, 3), 999);
-        check.due("9 undo", x.undo(), 23);
-        check.due("9 room again", x.come(0), 0);
     }
 
     private static void beats() {
