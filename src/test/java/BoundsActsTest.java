@@ -173,6 +173,13 @@ final class BoundsActsTest {
             "mat 0 3 = 5", "beat 0 = 1", "mat 0 3 = NONE", "undo = 1", "mat 0 3 = 5");
         script.run("15: MASTER, of several the least", "read d60,1;m5;w9,0,2;w9,3,2;w9,5,3; = 3", "come 1", "mat 0 3 = 3", "come 0", "mat 0 3 = 0", "come 2", "mat 0 3 = 5", "come 1",
             "mat 0 3 = 3", "come 0", "mat 0 3 = 0", "come 2", "mat 0 3 = 5", "come 1", "come 0", "mat 0 3 = 0");
+        for (int one = 0; one < 6; one++) {
+            for (int other = 0; other < 6; other++) {
+                int least = Math.min(one, other);
+                script.run("15: MASTER, every COUNTRY against every other", "read d60,1;m5;w9," + one + ",2;w9," + other + ",2; = 2", "come 0", "mat 0 3 = " + one, "come 1",
+                    "mat 0 3 = " + least, "come 1", "mat 0 3 = " + other, "soil 0 " + other + " = " + (one == other ? 6 : 4));
+            }
+        }
     }
 
     private static void soils() {

@@ -164,6 +164,8 @@ final class BoundsReadingTest {
     private static void ends() {
         String text = "d60,9;m5;m0;w30,5,9;e0,0,1;";
         String[] isWhole = {"d60,9;m5;", "d60,9;m5;m0;", "d60,9;m5;m0;w30,5,9;"};
+        script.run("7: the end, though the tape before was longer", "read d99,99;m99;w99,99,99; = FAULT1", "fault = 2", "read d9 = FAULT2", "fault = 1", "read d9,9;m5;w9,5,9; = 1",
+            "read d9,9 = FAULT4", "fault = 1", "read d9,9;m5 = FAULT7", "fault = 1", "read d9,9;m5; = 0", "count 2 = 0", "read d = FAULT1", "fault = 1", "hotel = FAULT0", "fault = 1");
         script.run("7: the end of an empty tape", "hotel = FAULT0", "fault = 1", "hotel = FAULT0");
         for (int length = 1; length < text.length(); length++) {
             String start = text.substring(0, length);
