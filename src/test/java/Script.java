@@ -176,7 +176,7 @@ final class Script {
         return new Call(words[at], arguments, isTold, due);
     }
 
-    private static int number(String word) {
+    static int number(String word) {
         switch (word) {
             case "NONE": return Check.NONE;
             case "BAD": return Check.BAD;
