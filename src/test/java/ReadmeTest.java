@@ -86,7 +86,8 @@ final class ReadmeTest {
         Path file = OUT.resolve("Readme.java");
         Files.write(file, source);
         JavaCompiler compiler = ToolProvider.getSystemJavaCompiler();
-        int failed = compiler.run(null, null, null, "-cp", System.getProperty("java.class.path"), "-d", OUT.toString(), file.toString());
+        String path = System.getProperty("java.class.path");
+        int failed = compiler.run(null, null, null, "-cp", path, "-d", OUT.toString(), file.toString());
         check.due("compiling the Java of README", failed, 0);
         if (failed != 0) {
             return new int[0];
